@@ -103,6 +103,13 @@ public final class AlpsTest {
         Check.due("feet 0", Check.pass(y, "feet 0 unless cows<20"), 3);
         Check.due("feet 0", y.drive(0, 1, 12), 20);
 
+        AlpCommune one = summer();
+        one.change(0, 3, 2);
+        one.counts();
+        Check.pass(one, "rate 1");
+        Check.due("rate 1", one.drive(0, 0, 3), -24);
+        Check.due("rate 1", one.drive(0, 0, 2), 2);
+
         AlpCommune z = summer();
         Check.pass(z, "from 151");
         Check.due("ahead of from", z.drive(0, 0, 20), -22);
@@ -144,6 +151,11 @@ public final class AlpsTest {
         Check.due("on the alp", x.alpOf(0, 4), 9);
         Check.due("all home", x.home(0, 0, 3), 0);
         Check.due("none any more", x.home(0, 0, 1), -2);
+        x.change(0, 2, 99);
+        Check.pass(x, "feet 0");
+        Check.due("as many as can be", x.drive(0, 1, 99), 99);
+        Check.due("more than can be", x.home(0, 1, 100), -2);
+        Check.due("all of them", x.home(0, 1, 99), 0);
     }
 
     private static void book() {

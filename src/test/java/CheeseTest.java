@@ -168,5 +168,23 @@ public final class CheeseTest {
         int[] given = {1, 1, 0, 1, 1};
         for (int h = 0; h < 5; h++) Check.due("wheels of " + h, y.told(h, 10), given[h]);
         Check.due("rest of 2", y.rest(2), 10666);
+
+        // House 0 is the first of them.
+        AlpCommune z = meadow(5);
+        milk(z, 10, 10, 10, 11, 11);
+        z.cheese(2);
+        int[] left = {3846, 3846, 3846, -5770, -5770};
+        for (int h = 0; h < 5; h++) Check.due("rest of " + h, z.rest(h), left[h]);
+        z.drive(0, 0, 6);
+        z.drive(1, 0, 6);
+        z.drive(2, 0, 6);
+        z.days(1);
+        z.measure();
+        z.cheese(2);
+        int[] back = {0, 1, 1, 1, 1}, backRests = {10512, 512, 512, -5770, -5770};
+        for (int h = 0; h < 5; h++) {
+            Check.due("wheels of " + h, z.told(h, 10), back[h]);
+            Check.due("rest of " + h, z.rest(h), backRests[h]);
+        }
     }
 }

@@ -47,13 +47,21 @@ public final class PlanTest {
         AlpCommune x = new AlpCommune();
         for (int i = 0; i < 3; i++) x.house(1, 1, 5, 0);
         for (int i = 0; i < 3; i++) x.alp(0, 20);
-        // 5 cows each, GRASS for 3, 6.. of them each day: apart they are best, and the first such is 0, 1, 2.
+        // 5 cows each, and GRASS for 3 on each alp: apart they are best, and the first such plan is 0, 1, 2.
         Check.due("fewest", x.plan(7, 1, 0), 6);
         int[] alps = {0, 1, 2};
         for (int m = 0; m < 3; m++) Check.due("alp of " + m, x.plan(7, 1, m + 1), alps[m]);
         Check.due("two of them", x.plan(6, 1, 0), 4);
         Check.due("the first", x.plan(6, 1, 1), 0);
         Check.due("the second", x.plan(6, 1, 2), 1);
+        // A best one that is the first of all, behind one that isn't.
+        Check.due("apart", x.plan(7, 1, 3), 2);
+        AlpCommune z = new AlpCommune();
+        for (int i = 0; i < 2; i++) z.house(1, 1, 5 * i, 0);
+        z.alp(3, 1);
+        z.alp(0, 99);
+        Check.due("the second alp", z.plan(2, 1, 1), 1);
+        Check.due("the first alp", z.plan(1, 1, 1), 0);
         AlpCommune y = new AlpCommune();
         y.house(1, 1, 0, 0);
         y.house(1, 1, 50, 0);

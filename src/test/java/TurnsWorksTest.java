@@ -47,6 +47,10 @@ public final class TurnsWorksTest {
         turns("each its own", x, 2, 2, 2);
         x.change(2, 1, 2);
         Check.due("nobody can", x.turn(2), -1);
+        AlpCommune y = new AlpCommune();
+        for (int i = 0; i < 3; i++) y.house(1, 3, 1, 0);
+        Check.pass(y, "watch 0");
+        for (int kind = 0; kind < 3; kind++) turns("from 0 on, kind " + kind, y, kind, 0, 1, 2, 0);
         x.change(0, 1, 3);
         x.change(3, 1, 3);
         turns("behind the one that had it last", x, 2, 3, 0, 3);

@@ -3,6 +3,7 @@ public final class WordsTest {
     public static void main(String[] args) {
         feed();
         faults();
+        faultsAnew();
         wholeTexts();
         vote();
         voteFull();
@@ -103,6 +104,28 @@ public final class WordsTest {
         fault("rate 3 if cows<3 and cows<3 or cows<3 and cows<3 or hay<3", 48);
         fault("rate 3 if cows<3 and cows<3 or cows<3 and cows<12345 or", 52);
         fault("rate 3\n", 6);
+        fault("rate 3 if not<3", 13);
+        fault("rate 3 if notcows<3", 13);
+        fault("rate :", 5);
+        fault("rate /", 5);
+        fault("rate 3:", 6);
+        fault("rate 3/", 6);
+        fault("rate 3 if cows3", 14);
+        fault("rate 3 if cows=/", 15);
+        fault("rate 3 if cows=3:", 16);
+    }
+
+    /** What an earlier text left behind the tape's end is none of it. */
+    private static void faultsAnew() {
+        AlpCommune x = withHouses(1);
+        String text = "rate 3 if cows<3 and not hay=4 or year>0";
+        Check.due("a first word", Check.pass(x, text), 0);
+        String ends = "0123456789";
+        for (int i = text.length() - 1; i >= 0; i--) {
+            boolean whole = ends.indexOf(i == 0 ? ' ' : text.charAt(i - 1)) >= 0;
+            Check.say(x, text.substring(0, i));
+            Check.due("the first " + i + " bytes", x.vote(0, 0), whole ? -3 : -10 - i);
+        }
     }
 
     private static void whole(String text) {
@@ -154,6 +177,21 @@ public final class WordsTest {
             Check.due("passes " + passing[i][0] + " " + passing[i][1], x.vote(passing[i][0], passing[i][1]), i);
         }
         Check.due("count(2)", x.count(2), passing.length);
+        // What a word that did not pass said is gone.
+        AlpCommune anew = withHouses(1);
+        Check.say(anew, "rate 3 if cows=11 or not cows=10");
+        Check.due("doesn't pass", anew.vote(0, 0), -3);
+        Check.due("without a test", Check.pass(anew, "rate 4"), 0);
+        Check.due("holds", anew.value(0, 0, 0, 0), 4);
+        Check.say(anew, "feet 3 unless not cows=11 and");
+        Check.due("a fault", anew.vote(1, 0), -10 - 29);
+        Check.due("without a test", Check.pass(anew, "lot 4"), 1);
+        Check.due("holds", anew.value(0, 6, 0, 0), 4);
+        Check.due("the other key has none", anew.why(0, 1, 0, 0), -1);
+        Check.say(anew, "feet 3 if not cows=11 or not hay=3");
+        Check.due("doesn't pass", anew.vote(0, 1), -3);
+        Check.due("two plain tests", Check.pass(anew, "feet 9 if cows=10 and hay=3"), 2);
+        Check.due("does not hold", anew.value(0, 1, 0, 0), 4);
         AlpCommune four = withHouses(4);
         Check.say(four, "rate 3");
         Check.due("half of four", four.vote(3, 0), 0);
