@@ -21,13 +21,10 @@ public final class AlpCommune {
 
     /** The kinds of rights, and the commons they are of. */
     private static final int RIGHT = 0, COW = 1, WOOD = 2, HOUR = 3, HALF = 4, STRANGE = 5, KINDS = 6;
-    private static final int ALPS = 0, WATER = 2, COMMONS = 3;
-    private static final int[] COMMON_OF = {-1, 0, 1, 2, 0, -1};
-    private static final int[] KIND_ABOVE = {-1, RIGHT, RIGHT, RIGHT, COW, RIGHT};
+    private static final int ALPS = 0, WOODS = 1, WATER = 2, COMMONS = 3;
 
-    /** The keys of words, and what they are worth without any word. */
+    /** The keys of words. */
     private static final int RATE = 0, FEET = 1, FROM = 2, TILL = 3, OWED = 4, FINE = 5, LOT = 6, WATCH = 7, KEYS = 8;
-    private static final int[] WORTH_AT_FIRST = {30, 4, 150, 270, 2, 5, 3, 1};
 
     private static final int WARM = 0, FALL = 1;
     private static final int HERD = 0, WATCHING = 1, OFFICE = 2, TURNS = 3;
@@ -254,7 +251,7 @@ public final class AlpCommune {
         int toldDays = 0;
         for (int j = 0; j < n; j++) {
             long item = s.items[i + j];
-            // A quarter is a quarter of a degree or of a fall: dividing by 4 cuts towards 0.
+            // The items are quarters: dividing by 4 cuts towards 0.
             if (item != Sheet.NO_NUMBER && Sky.fits(what, item / 4)) {
                 skies.tell(day + j, what, (int) (item / 4));
                 toldDays++;
@@ -803,6 +800,10 @@ public final class AlpCommune {
 
     /** All rights, a column for each thing that one has. */
     private static final class Rights {
+        /** By kinds; -1 is none. */
+        private static final int[] COMMON_OF = {-1, ALPS, WOODS, WATER, ALPS, -1};
+        private static final int[] KIND_ABOVE = {-1, RIGHT, RIGHT, RIGHT, COW, RIGHT};
+
         private final int[] kind = new int[MOST_RIGHTS];
         private final int[] owner = new int[MOST_RIGHTS];
         private final int[] parts = new int[MOST_RIGHTS];
@@ -935,6 +936,8 @@ public final class AlpCommune {
         private static final String CONDITIONS = "if unless ";
         private static final String JOINTS = "and or ";
         private static final int NOT = 6, UNLESS = 1, OR = 1;
+        /** What the keys are worth without any word. */
+        private static final int[] WORTH_AT_FIRST = {30, 4, 150, 270, 2, 5, 3, 1};
 
         private final Word[] rows = new Word[MOST_WORDS];
         private int count;
@@ -1059,7 +1062,9 @@ public final class AlpCommune {
         /** How many bytes from here on are those of the name that begins at start; each name ends ahead of a blank. */
         private int sameBytes(String names, int start) {
             int same = 0;
-            while (place + same < length && isOfName(names, start + same) && tape[place + same] == names.charAt(start + same)) {
+            while (place + same < length && start + same < names.length()) {
+                byte b = tape[place + same];
+                if (b == ' ' || b != names.charAt(start + same)) break;
                 same++;
             }
             return same;
