@@ -928,7 +928,7 @@ public final class AlpCommune {
 
     /** The words that passed, and the tape from which the next one is read. */
     private static final class Words {
-        /** In each of these no word begins another, so that the first one that fits is the only one. */
+        /** A blank ends each name. In each row no name begins another, so that the first one that fits is the only one. */
         private static final String KEY_NAMES = "rate feet from till heads fine lot watch ";
         private static final String FIELD_NAMES = "cows hay heads hearths year season ";
         private static final String FIELD_NAMES_AND_NOT = "cows hay heads hearths year season not ";
@@ -1045,39 +1045,27 @@ public final class AlpCommune {
 
         /** Which of the names stands here: -1, and the place behind all that any name has in common, if none does. */
         private int readName(String names) {
-            int furthest = 0, start = 0;
-            for (int name = 0; start < names.length(); name++) {
-                int same = sameBytes(names, start);
-                if (!isOfName(names, start + same)) {
-                    place += same;
-                    return name;
+            int name = 0, same = 0, furthest = 0;
+            boolean fits = true;
+            for (int i = 0; i < names.length(); i++) {
+                char sign = names.charAt(i);
+                if (sign == ' ') {
+                    // A name ends here, and the next one begins.
+                    if (fits) {
+                        place += same;
+                        return name;
+                    }
+                    name++;
+                    same = 0;
+                    fits = true;
+                } else if (fits) {
+                    fits = place + same < length && tape[place + same] == sign;
+                    if (fits) same++;
+                    furthest = Math.max(furthest, same);
                 }
-                furthest = Math.max(furthest, same);
-                start = behindBlank(names, start);
             }
             place += furthest;
             return -1;
-        }
-
-        /** How many bytes from here on are those of the name that begins at start; each name ends ahead of a blank. */
-        private int sameBytes(String names, int start) {
-            int same = 0;
-            while (place + same < length && start + same < names.length()) {
-                byte b = tape[place + same];
-                if (b == ' ' || b != names.charAt(start + same)) break;
-                same++;
-            }
-            return same;
-        }
-
-        private static boolean isOfName(String names, int at) {
-            return at < names.length() && names.charAt(at) != ' ';
-        }
-
-        private static int behindBlank(String names, int start) {
-            int at = start;
-            while (isOfName(names, at)) at++;
-            return at + 1;
         }
     }
 

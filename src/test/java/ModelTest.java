@@ -6,15 +6,16 @@ import java.util.List;
  * same answers; and none throws. The same seed gives the same runs.
  */
 public final class ModelTest {
+    static final int MOST_CALLS = 512;
     private static final int RUNS = Integer.getInteger("runs", 1500);
     private static final int[] WILD = {Integer.MIN_VALUE, Integer.MIN_VALUE + 1, -1001, -2, -1, 0, 1, 2, 100, 1000, 7199, 7200, 7201,
         1 << 30, Integer.MAX_VALUE - 1, Integer.MAX_VALUE};
-    private static final String[] NAMES = {"house", "change", "told", "counts", "right", "split", "join", "lend", "leave",
+    static final String[] NAMES = {"house", "change", "told", "counts", "right", "split", "join", "lend", "leave",
         "rightOf", "parts", "feed", "vote", "voids", "value", "why", "weather", "sky", "skyOf", "alp", "alpOf", "drive", "home",
         "book", "days", "slope", "slopeOf", "works", "shut", "measure", "cheese", "rest", "fell", "channel", "hour", "gets", "turn",
         "work", "year", "plan", "act", "trace", "taken", "count", "sheet", "cell", "lose", "copy", "say"};
     /** What a run is mostly about. */
-    private static final String[][] THEMES = {{}, {"drive", "home", "days", "measure", "cheese", "rest", "plan"},
+    static final String[][] THEMES = {{}, {"drive", "home", "days", "measure", "cheese", "rest", "plan"},
         {"weather", "days", "slopeOf", "works", "fell", "shut"}, {"right", "split", "join", "lend", "leave", "channel", "gets", "hour", "days"},
         {"say", "drive", "home", "voids", "why", "days"}, {"year", "work", "turn", "days", "say"},
         {"sheet", "cell", "lose", "copy", "sky", "skyOf"}};
@@ -22,9 +23,9 @@ public final class ModelTest {
     private static final String[] KEYS = {"rate", "feet", "from", "till", "heads", "fine", "lot", "watch"};
 
     private static long seed;
-    private static AlpCommune x;
-    private static Model y;
-    private static int calls;
+    static AlpCommune x;
+    static Model y;
+    static int calls;
     private static int wildness;
     private static List<String> said;
 
@@ -54,12 +55,17 @@ public final class ModelTest {
         return num(0, Math.max(0, count - 1));
     }
 
-    private static void run(int run) {
+    /** A new commune and a new model, of which nothing was asked. */
+    static void anew(int run) {
         seed = run * 7919L + 13;
         x = new AlpCommune();
         y = new Model();
         calls = 0;
         said = new ArrayList<>();
+    }
+
+    private static void run(int run) {
+        anew(run);
         wildness = new int[] {0, 3, 10, 30}[random(4)];
         int[] weights = new int[NAMES.length];
         int all = 0;
@@ -70,16 +76,17 @@ public final class ModelTest {
             all += weights[i];
         }
         begin(theme);
-        while (calls < 470) {
+        int most = new int[] {200, 350, 470, 480}[random(4)];
+        while (calls < most) {
             int at = random(all), call = 0;
             while (at >= weights[call]) at -= weights[call++];
             if (!call(NAMES[call])) return;
         }
-        lookAround();
+        lookAround(run);
     }
 
     /** Most runs begin with a commune in which much can be done. */
-    private static void begin(int theme) {
+    static void begin(int theme) {
         if (theme == 0 && random(2) == 0) return;
         int wild = wildness;
         wildness = 0;
@@ -110,7 +117,7 @@ public final class ModelTest {
         }
     }
 
-    private static boolean same(String call, int got, int want) {
+    static boolean same(String call, int got, int want) {
         calls++;
         said.add(call + " = " + want);
         Check.due(call, got, want);
@@ -347,25 +354,47 @@ public final class ModelTest {
         }
     }
 
-    /** At a run's end all that can be asked without changing anything is asked. */
-    private static void lookAround() {
-        for (int what = -1; what <= 15; what++) same("count(" + what + ")", x.count(what), y.count(what));
-        for (int h = 0; h < y.houses.size(); h++) {
-            for (int what = 0; what <= 12; what++) same("told(" + h + ", " + what + ")", x.told(h, what), y.told(h, what));
-            same("rest(" + h + ")", x.rest(h), y.rest(h));
+    /** An object is for 512 calls. */
+    private static boolean more() {
+        return calls < MOST_CALLS;
+    }
+
+    /** At a run's end all that can be asked without changing anything is asked, as far as there are calls for it. */
+    private static void lookAround(int run) {
+        for (int i = 0; i < 6; i++) look((run + i) % 6);
+    }
+
+    private static void look(int at) {
+        switch (at) {
+            case 0:
+                for (int what = -1; what <= 15 && more(); what++) same("count(" + what + ")", x.count(what), y.count(what));
+                for (int i = 0; i < 21 && more(); i++) same("trace(" + i + ")", x.trace(i), y.trace(i));
+                return;
+            case 1:
+                for (int h = 0; h < y.houses.size(); h++) {
+                    for (int what = 0; what <= 12 && more(); what++) same("told(" + h + ", " + what + ")", x.told(h, what), y.told(h, what));
+                    if (more()) same("rest(" + h + ")", x.rest(h), y.rest(h));
+                }
+                return;
+            case 2:
+                for (int r = 0; r < y.rights.size(); r++) {
+                    for (int what = 0; what <= 5 && more(); what++) same("rightOf(" + r + ", " + what + ")", x.rightOf(r, what), y.rightOf(r, what));
+                }
+                return;
+            case 3:
+                for (int a = 0; a < y.alps.size(); a++) {
+                    for (int what = 0; what <= 15 && more(); what++) same("alpOf(" + a + ", " + what + ")", x.alpOf(a, what), y.alpOf(a, what));
+                }
+                return;
+            case 4:
+                for (int s = 0; s < y.slopes.size(); s++) {
+                    for (int what = 0; what <= 16 && more(); what++) same("slopeOf(" + s + ", " + what + ")", x.slopeOf(s, what), y.slopeOf(s, what));
+                }
+                return;
+            default:
+                for (int i = 0; i < y.drives.size(); i++) {
+                    for (int what = 0; what <= 5 && more(); what++) same("book(" + i + ", " + what + ")", x.book(i, what), y.book(i, what));
+                }
         }
-        for (int r = 0; r < y.rights.size(); r++) {
-            for (int what = 0; what <= 5; what++) same("rightOf(" + r + ", " + what + ")", x.rightOf(r, what), y.rightOf(r, what));
-        }
-        for (int a = 0; a < y.alps.size(); a++) {
-            for (int what = 0; what <= 15; what++) same("alpOf(" + a + ", " + what + ")", x.alpOf(a, what), y.alpOf(a, what));
-        }
-        for (int s = 0; s < y.slopes.size(); s++) {
-            for (int what = 0; what <= 16; what++) same("slopeOf(" + s + ", " + what + ")", x.slopeOf(s, what), y.slopeOf(s, what));
-        }
-        for (int i = 0; i < y.drives.size(); i++) {
-            for (int what = 0; what <= 5; what++) same("book(" + i + ", " + what + ")", x.book(i, what), y.book(i, what));
-        }
-        for (int i = 0; i < 21; i++) same("trace(" + i + ")", x.trace(i), y.trace(i));
     }
 }

@@ -144,52 +144,77 @@ public final class PlanTest {
             for (int h = 0; h < houses; h++) if (r[61 + h] % 3 > 0) x.drive(h, r[68 + h] % alps, 1 + r[75] % 9);
             int set = 1 + r[76] % ((1 << houses) - 1), n = 1 + r[77] % 30;
             while (Integer.bitCount(set) > 5) set &= set - 1;
-            int[] best = allPlans(x, set, n);
+            int[] best = new Plans(x, n).best(set, n);
             for (int what = 0; what <= Integer.bitCount(set); what++) Check.due("round " + round + ", plan " + what, x.plan(set, n, what), best[what]);
         }
     }
 
-    private static int[] allPlans(AlpCommune x, int set, int n) {
-        int houses = x.count(0), alps = x.count(4), size = Integer.bitCount(set);
-        int[] on = new int[size], best = null;
-        while (true) {
-            int[][] up = new int[houses][alps];
-            int m = 0;
-            for (int h = 0; h < houses; h++) {
-                if ((set >> h & 1) == 1) up[h][on[m++]] = x.told(h, 2);
-                else for (int a = 0; a < alps; a++) up[h][a] = x.alpOf(a, 5 + h);
-            }
-            int hungry = hungry(x, up, n);
-            if (best == null || hungry < best[0]) {
-                best = new int[size + 1];
-                best[0] = hungry;
-                System.arraycopy(on, 0, best, 1, size);
-            }
-            int last = size - 1;
-            while (last >= 0 && on[last] == alps - 1) on[last--] = 0;
-            if (last < 0) return best;
-            on[last]++;
-        }
-    }
+    /** What a commune's plans hang on, asked of it once, and all of them lived cow by cow. */
+    private static final class Plans {
+        final int[] cows, warm, fall;
+        final int[][] up, alps;
 
-    private static int hungry(AlpCommune x, int[][] up, int n) {
-        int hungry = 0;
-        for (int a = 0; a < up[0].length; a++) {
-            int height = x.alpOf(a, 0), area = x.alpOf(a, 1), grass = x.alpOf(a, 2), snow = x.alpOf(a, 3);
-            for (int day = x.count(3); day < x.count(3) + n; day++) {
-                int w = x.skyOf(day, 0) - 5 * height;
-                if (w <= 2) snow += x.skyOf(day, 1);
-                else snow = snow < 2 * w ? 0 : snow - 2 * w;
-                if (snow == 0 && w > 0) grass += (w < 20 ? w : 20) * area / 10;
-                if (grass > 10 * area) grass = 10 * area;
-                for (int[] of : up) {
-                    for (int cow = 0; cow < of[a]; cow++) {
-                        if (grass >= 3) grass -= 3;
-                        else hungry++;
+        Plans(AlpCommune x, int days) {
+            cows = new int[x.count(0)];
+            alps = new int[x.count(4)][4];
+            up = new int[cows.length][alps.length];
+            warm = new int[days];
+            fall = new int[days];
+            for (int a = 0; a < alps.length; a++) for (int what = 0; what < 4; what++) alps[a][what] = x.alpOf(a, what);
+            for (int h = 0; h < cows.length; h++) {
+                cows[h] = x.told(h, 2);
+                for (int a = 0; a < alps.length; a++) up[h][a] = x.alpOf(a, 5 + h);
+            }
+            int today = x.count(3);
+            for (int d = 0; d < days; d++) {
+                warm[d] = x.skyOf(today + d, 0);
+                fall[d] = x.skyOf(today + d, 1);
+            }
+        }
+
+        /** The fewest hungry, and behind that the alps of the first plan that has them. */
+        int[] best(int set, int days) {
+            int size = Integer.bitCount(set);
+            int[] on = new int[size], best = null;
+            while (true) {
+                int[][] planned = new int[cows.length][alps.length];
+                int m = 0;
+                for (int h = 0; h < cows.length; h++) {
+                    if ((set >> h & 1) == 1) planned[h][on[m++]] = cows[h];
+                    else planned[h] = up[h];
+                }
+                int hungry = hungry(planned, days);
+                if (best == null || hungry < best[0]) {
+                    best = new int[size + 1];
+                    best[0] = hungry;
+                    System.arraycopy(on, 0, best, 1, size);
+                }
+                int last = size - 1;
+                while (last >= 0 && on[last] == alps.length - 1) on[last--] = 0;
+                if (last < 0) return best;
+                on[last]++;
+            }
+        }
+
+        private int hungry(int[][] planned, int days) {
+            int hungry = 0;
+            for (int a = 0; a < alps.length; a++) {
+                int height = alps[a][0], area = alps[a][1], grass = alps[a][2], snow = alps[a][3];
+                for (int day = 0; day < days; day++) {
+                    int w = warm[day] - 5 * height;
+                    if (w <= 2) snow += fall[day];
+                    else snow = snow < 2 * w ? 0 : snow - 2 * w;
+                    if (snow == 0 && w > 0) grass += (w < 20 ? w : 20) * area / 10;
+                    if (grass > 10 * area) grass = 10 * area;
+                    for (int[] of : planned) {
+                        for (int cow = 0; cow < of[a]; cow++) {
+                            if (grass >= 3) grass -= 3;
+                            else hungry++;
+                        }
                     }
                 }
             }
+            return hungry;
         }
-        return hungry;
     }
 }

@@ -53,16 +53,24 @@ public final class SkyTest {
     private static void lookBack() {
         int[] toldDays = {0, 1, 59, 60, 61, 119, 120, 600, 3599, 3600, 7199};
         for (int toldDay : toldDays) {
-            AlpCommune x = new AlpCommune();
-            x.weather(toldDay, 1, 33);
+            AlpCommune x = toldOn(toldDay);
             for (int day = 0; day < 7200; day++) {
+                // A fresh one now and then, as one is for 512 calls.
+                if (day % 500 == 0) x = toldOn(toldDay);
                 int is = x.skyOf(day, 1);
                 if (is != (day < toldDay ? 0 : 33)) Check.due("FALL of " + day + ", told on " + toldDay, is, day < toldDay ? 0 : 33);
             }
+            x = toldOn(toldDay);
             x.weather(toldDay, 1, 44);
             x.weather(Math.min(toldDay + 1, 7199), 1, 0);
             Check.due("told again", x.skyOf(toldDay, 1), toldDay == 7199 ? 0 : 44);
         }
+    }
+
+    private static AlpCommune toldOn(int day) {
+        AlpCommune x = new AlpCommune();
+        x.weather(day, 1, 33);
+        return x;
     }
 
     private static AlpCommune withFloats(int... quarters) {
