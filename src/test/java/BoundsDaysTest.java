@@ -272,6 +272,11 @@ public final class BoundsDaysTest extends Check {
         due("329 by 330", onDayWith(150, "feet 0", "rate 330").drive(0, 0, 1), -24);
         due("329 by 99999", onDayWith(150, "feet 0", "rate 99999").drive(0, 0, 1), -24);
         due("rate 1", onDayWith(150, "feet 0", "rate 1").drive(0, 0, 20), 20);
+        AlpCommune little = onDayWith(150, "feet 0", "rate 1");
+        little.change(0, 3, 3);
+        little.counts();
+        due("3 by 1", little.drive(0, 0, 4), -24);
+        due("3 by 1", little.drive(0, 0, 3), 3);
         due("rate 0", onDayWith(150, "feet 0", "rate 0").drive(0, 0, 20), 20);
         AlpCommune never = Communes.withHouses(1);
         never.alp(0, 9);

@@ -146,6 +146,12 @@ public final class BoundsGoodsTest extends Check {
         milk(y, 0, 0, 6, 6, 6);
         due("two", y.cheese(2), 2);
         parted("one of three goes from the least", y, row(1, 1, 0, 1, 1), row(-6000, -6000, 10666, 666, 666));
+        AlpCommune z = milked(10, 10, 10, 11, 11);
+        z.cheese(2);
+        parted("4230 of the last two", z, row(0, 0, 0, 1, 1), row(3846, 3846, 3846, -5770, -5770));
+        milk(z, 6, 6, 6, 0, 0);
+        due("two", z.cheese(2), 2);
+        parted("one of three goes from house 0", z, row(0, 1, 1, 1, 1), row(10512, 512, 512, -5770, -5770));
     }
 
     /** Rests of -5000 (five houses) and 5000 (five), and then 3 of 4 and 5's alone: 10000 or more in more than one go. */
@@ -657,6 +663,16 @@ public final class BoundsGoodsTest extends Check {
         turns("one that came", x, 0, 1, 1);
         turns("one that came", x, 2, 1, 1);
         refused("nobody changes nothing", -1, BoundsGoodsTest::withoutCows, y -> y.turn(0));
+        AlpCommune y = withoutCows();
+        turns("nobody", y, 0, -1);
+        for (int h = 0; h < 3; h++) y.change(h, 2, 1);
+        turns("behind the one that had it last", y, 0, 2, 0);
+        AlpCommune office = Communes.withHouses(2);
+        turns("office", office, 2, 0);
+        for (int h = 0; h < 2; h++) office.change(h, 1, 2);
+        turns("nobody", office, 2, -1);
+        for (int h = 0; h < 2; h++) office.change(h, 1, 3);
+        turns("behind the one that had it last", office, 2, 1, 0);
     }
 
     /** The herd was with 1, and nobody has cows. */

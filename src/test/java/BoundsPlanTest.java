@@ -50,6 +50,43 @@ public final class BoundsPlanTest extends Check {
         plan("a day that is over does not count", x, 1, 3, 1 + 3 + 3, 0);
     }
 
+    static void t6_asABSay() {
+        sentence("as (a), (b) say, with WARM and FALL as they count");
+        // HEIGHT 0, 1, 2, 3 by WARM 16: W 16, 11, 6, 1, and GRASS 16, 11, 6, 1 by AREA 10.
+        int[] fed = {5, 3, 2, 0};
+        for (int height = 0; height < 4; height++) {
+            AlpCommune x = Communes.free(20);
+            x.alp(height, 10);
+            x.weather(0, 0, 16);
+            plan("HEIGHT " + height, x, 1, 1, 20 - fed[height], 0);
+        }
+        // SNOW 30 of day 0 melts by 14 a day: 16, 2, 0 behind days 1, 2, 3; on 3 and 4 there is GRASS for 3 of 4.
+        AlpCommune snow = Communes.free(4);
+        snow.alp(0, 14);
+        Communes.sky(snow, 0, 2, 30);
+        Communes.sky(snow, 1, 7, 99);
+        int[] hungry = {4, 8, 12, 13, 14};
+        for (int n = 1; n <= 5; n++) plan("SNOW, " + n + " days", snow, 1, n, hungry[n - 1], 0);
+        snow.days(1);
+        for (int n = 1; n <= 4; n++) plan("SNOW that lies, " + n + " days", snow, 1, n, hungry[n] - 4, 0);
+        due("a plan is not lived", snow.alpOf(0, 3), 30);
+        due("nobody is HUNGRY for it", snow.told(0, 6), 0);
+        // From day 1 on, with GRASS 10: 20 for 12, then SNOW 50 and 8 for 12, then SNOW 30 and 2 for 12.
+        AlpCommune coming = Communes.free(4);
+        coming.alp(0, 10);
+        Communes.sky(coming, 0, 10, 0);
+        Communes.sky(coming, 2, 0, 50);
+        Communes.sky(coming, 3, 10, 0);
+        coming.days(1);
+        for (int n = 1; n <= 3; n++) plan("SNOW to come, " + n + " days", coming, 1, n, new int[] {0, 2, 6}[n - 1], 0);
+        // GRASS up to 10 times AREA, by W 20 and more.
+        AlpCommune x = Communes.free(20);
+        x.alp(0, 3);
+        x.weather(0, 0, 40);
+        x.days(6);
+        plan("30 GRASS and then 6 a day", x, 1, 2, 10 + 18, 0);
+    }
+
     static void t6_cowsOfOtherHousesThatAreUpStaying() {
         sentence("COWS of other HOUSES that are UP staying: the fewest that are HUNGRY UP there in all (COWS of all HOUSES)");
         AlpCommune x = land(row(3, 9, 5), 12, 15);
@@ -80,6 +117,9 @@ public final class BoundsPlanTest extends Check {
         plan("one to each", land(row(3, 3, 3, 3), 9, 9, 9, 9), 15, 1, 0, 0, 1, 2, 3);
         plan("the last plan of all", land(row(9, 9), 3, 27, 30), 3, 1, 0, 1, 2);
         plan("both on the last", land(row(5, 5), 3, 3, 30), 3, 1, 0, 2, 2);
+        AlpCommune x = land(row(1, 9), 9, 27);
+        plan("not the first of all", x, 2, 1, 0, 1);
+        plan("the first of all, behind another plan", x, 1, 1, 0, 0);
     }
 
     static void p41_theAlpOfTheWhat1ThHouseOfTheSet() {

@@ -236,8 +236,15 @@ public final class BoundsWordsTest extends Check {
             else fault(text.substring(0, i), i);
         }
         fault("", 0);
-        String hundred = "a".repeat(100);
-        fault(hundred, 0);
+        // What a longer text left behind the tape's end is none of it.
+        for (int i = text.length() - 1; i >= 0; i--) {
+            AlpCommune x = Communes.withHouses(1);
+            say(x, text);
+            due("the whole text", x.vote(0, 1), -3);
+            boolean isWhole = i > 0 && digits.indexOf(text.charAt(i - 1)) >= 0;
+            say(x, text.substring(0, i));
+            due("the first " + i, x.vote(0, 1), isWhole ? -3 : -10 - i);
+        }
     }
 
     // ---- votes
@@ -481,6 +488,28 @@ public final class BoundsWordsTest extends Check {
             due("a word behind it", pass(x, "feet 8"), i == 0 ? 1 : 0);
             due("feet", x.value(0, 1, 0, 0), 8);
             due("rate", x.value(0, 0, 0, 0), i == 0 ? 3 : 30);
+        }
+    }
+
+    static void p14_stateBehindTheFaultItDoesNotPass() {
+        sentence("STATE (behind the FAULT): it does not pass. (THE TAPE is empty then, by a FAULT and by STATE, too.)");
+        // What one said that did not become a word is gone.
+        String[] said = {"rate 3 unless cows=10 and not hay=1 or not heads=3", "rate 3 unless cows=10 and not hay=1 or not heads=3 or"};
+        int[] answers = {-3, -10 - 53};
+        for (int i = 0; i < 2; i++) {
+            AlpCommune x = saying(said[i]);
+            due("it does not become one", x.vote(i, 6), answers[i]);
+            due("one without a TEST", pass(x, "feet 8"), 0);
+            due("feet", x.value(0, 1, 0, 0), 8);
+            due("rate", x.why(0, 0, 0, 0), -1);
+            AlpCommune y = saying(said[i]);
+            y.vote(i, 6);
+            due("one with plain TESTS", pass(y, "feet 8 if cows=10 and hay=100 and heads=3"), 0);
+            due("feet", y.value(0, 1, 0, 0), 8);
+            AlpCommune z = saying(said[i]);
+            z.vote(i, 6);
+            due("one with plain TESTS", pass(z, "feet 8 if cows=9 and hay=100 and heads=3"), 0);
+            due("feet at first", z.value(0, 1, 0, 0), 4);
         }
     }
 
