@@ -59,6 +59,15 @@ public final class BoundsDaysTest extends Check {
             due("told 0 is told", x.skyOf(21, what), 0);
             due("the other alone", x.skyOf(21, 1 - what), WITHOUT[1 - what]);
         }
+        for (int day : new int[] {0, 1, 58, 59, 60, 61, 119, 120, 179, 359, 360, 3599, 7139, 7140, 7198}) {
+            AlpCommune x = new AlpCommune();
+            x.weather(day, 1, 9);
+            if (day > 0) due("FALL ahead of " + day, x.skyOf(day - 1, 1), 0);
+            for (int behind : new int[] {0, 1, 2, 59, 60, 61, 62, 120, 121, 360}) {
+                if (day + behind < 7200) due("FALL of " + (day + behind) + ", told on " + day, x.skyOf(day + behind, 1), 9);
+            }
+            due("FALL of the last day, told on " + day, x.skyOf(7199, 1), 9);
+        }
     }
 
     static void t3_withoutAny5And0() {

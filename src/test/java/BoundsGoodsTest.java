@@ -154,26 +154,26 @@ public final class BoundsGoodsTest extends Check {
         parted("one of three goes from house 0", z, row(0, 1, 1, 1, 1), row(10512, 512, 512, -5770, -5770));
     }
 
-    /** Rests of -5000 (five houses) and 5000 (five), and then 3 of 4 and 5's alone: 10000 or more in more than one go. */
+    /** Five houses that got one have a REST of -5000, five have 5000; then others have milk. */
     static void t5_ofThoseThatGotOneNow() {
         sentence("the HOUSE with the least REST of those that got one now");
         AlpCommune x = milked(1, 1, 1, 1, 1, 1, 1, 1, 1, 1);
         x.cheese(5);
         parted("5000 each", x, row(1, 1, 1, 1, 1, 0, 0, 0, 0, 0),
             row(-5000, -5000, -5000, -5000, -5000, 5000, 5000, 5000, 5000, 5000));
-        // Two: by 1 of 4 each 5000 more to 5, 6, 7, 8: four WHEELS; two go again, from 5 and 6.
+        // Two, 5000 each more for 5, 6, 7, 8: they get four, and two go again, from 5 and 6.
         milk(x, 0, 0, 0, 0, 0, 1, 1, 1, 1, 0);
         due("two", x.cheese(2), 2);
         parted("two go", x, row(1, 1, 1, 1, 1, 0, 0, 1, 1, 0),
             row(-5000, -5000, -5000, -5000, -5000, 10000, 10000, 0, 0, 5000));
-        // Two: by 1 of 4 to 0, 1, 2, 3: 0 each; 5 and 6 have one each of their REST: as many as are parted.
+        // Two, 5000 each more for 0, 1, 2, 3, which have 0 then; 5 and 6 get one each by their REST: as many as are parted.
         milk(x, 1, 1, 1, 1, 0, 0, 0, 0, 0, 0);
         due("two", x.cheese(2), 2);
         parted("none goes", x, row(1, 1, 1, 1, 1, 1, 1, 1, 1, 0), row(0, 0, 0, 0, -5000, 0, 0, 0, 0, 5000));
-        // One: 4 has -5000 and 10000 more, one of its own; those below 0 that got none now are not asked.
+        // One, 10000 more for 4, which has 5000 then, as 9 has: it goes to the least of both.
         milk(x, 0, 0, 0, 0, 1, 0, 0, 0, 0, 0);
         due("one", x.cheese(1), 1);
-        parted("one more, to 4 or 9 with 5000", x, row(1, 1, 1, 1, 2, 1, 1, 1, 1, 0), row(0, 0, 0, 0, -5000, 0, 0, 0, 0, 5000));
+        parted("one more, to 4", x, row(1, 1, 1, 1, 2, 1, 1, 1, 1, 0), row(0, 0, 0, 0, -5000, 0, 0, 0, 0, 5000));
     }
 
     static void t5_thenSumsAre0() {

@@ -138,6 +138,7 @@ public final class BoundsWordsTest extends Check {
         holds("if not cows=9", 0, true);
         holds("if not cows=10", 0, false);
         fault("rate 3 if notcows=9", 13);
+        fault("rate 3 if not=9", 13);
         fault("rate 3 if not not cows=9", 14);
         fault("rate 3 if not  cows=9", 14);
         fault("rate 3 if not", 13);
